@@ -98,12 +98,9 @@ public final class CohereBench {
         if (place == NONE) {
             return NONE;
         }
-        if (!protocol.hasRow(place)) {
-            return 0;
-        }
-        protocol.dropRow(place);
+        int was = protocol.dropRow(place);
         beginAnew();
-        return 1;
+        return was;
     }
 
     public int rows(int side) {
@@ -267,6 +264,7 @@ public final class CohereBench {
         return atlas.usedAt(place);
     }
 
+    /** Every change that is not refused comes here, also one that leaves the protocol as it was. */
     private void beginAnew() {
         run.begin(protocol.home());
         atlasHolds = false;
@@ -423,11 +421,13 @@ public final class CohereBench {
             return was;
         }
 
-        void dropRow(int place) {
-            rowCounts[sideOf(place)]--;
+        int dropRow(int place) {
+            int was = hasRow(place) ? 1 : 0;
+            rowCounts[sideOf(place)] -= was;
             lengths[place] = NONE;
             // A row that is not there makes no letter wait.
             waits[place] = false;
+            return was;
         }
 
         int actOf(int place, int k) {

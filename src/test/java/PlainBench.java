@@ -132,9 +132,9 @@ final class PlainBench {
 
     int tear(int where) {
         if (noPlace(where)) return NONE;
-        if (table.remove(where / 16) == null) return 0;
+        boolean was = table.remove(where / 16) != null;
         changed();
-        return 1;
+        return was ? 1 : 0;
     }
 
     int rows(int side) {

@@ -276,9 +276,29 @@ public final class PromiseTest {
         x.choose(2);
         dueAnew(21, x, false);
 
-        x = underWay();
-        due(6, "tear of none", x.tear(where(HOME, 9, 9, 0)), 0);
-        dueAnew(6, x, false);
+        tearOfNothingBeginsAnew();
+    }
+
+    /** Only what is answered NONE is refused; a tear() that answers 0 begins the run anew like any other change. */
+    private static void tearOfNothingBeginsAnew() {
+        int[] empty = {where(HOME, 9, 9, 0), where(HOME, 15, 31, 15), where(CACHE, 0, STORE, 0), where(CACHE, 15, 18, 9)};
+        for (int where : empty) {
+            CohereBench x = underWay();
+            due(6, "tear of none", x.tear(where), 0);
+            dueAnew(6, x, true);
+            due(7, "rows(0)", x.rows(0), 1);
+            due(7, "rows(1)", x.rows(1), 0);
+            due(15, "walk(100)", x.walk(100), 4);
+            due(22, "number() behind a new walk", x.number(), 0);
+            due(21, "go(3) behind a new walk", x.go(3), 0);
+            due(22, "number()", x.number(), 3);
+        }
+        int[] refused = {-1, where(CACHE, 0, 19, 0), where(HOME, 0, 32, 0), where(2, 0, 0, 0)};
+        for (int where : refused) {
+            CohereBench x = underWay();
+            due(6, "tear, refused", x.tear(where), -1);
+            dueAnew(6, x, false);
+        }
     }
 
     private static void stepsInOrder() {
