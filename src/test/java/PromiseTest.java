@@ -1,57 +1,8 @@
 import java.util.Arrays;
 
 /** The promises one by one, with answers worked out by hand from the document. */
-public final class PromiseTest {
-    private static final int CACHE = 0;
-    private static final int HOME = 1;
-    private static final int LOAD = 0;
-    private static final int STORE = 1;
-    private static final int EVICT = 2;
+public final class PromiseTest extends Desk {
     private static final int[] NO_SUCH = {-1, Integer.MIN_VALUE, Integer.MAX_VALUE};
-
-    private static int wrong = 0;
-    private static int asked = 0;
-
-    private static void due(int promise, String call, int got, int want) {
-        asked++;
-        if (got != want) {
-            wrong++;
-            System.out.println("promise " + promise + ": " + call + " answered " + got + ", due is " + want);
-        }
-    }
-
-    private static int where(int side, int state, int event, int n) {
-        return ((side * 16 + state) * 64 + event) * 16 + n;
-    }
-
-    private static int four(int[] acts, int from) {
-        int sum = 0;
-        for (int i = from; i < from + 4; i++) {
-            sum = sum << 8 | (i < acts.length ? acts[i] : 0);
-        }
-        return sum;
-    }
-
-    /** Writes a row of acts, each given as hex: its OP, then its ARGUMENT. */
-    private static int put(CohereBench x, int side, int state, int event, int... acts) {
-        return x.row(where(side, state, event, acts.length), four(acts, 0), four(acts, 4));
-    }
-
-    private static int kind(int k) {
-        return 3 + k;
-    }
-
-    /** The letters as text: KIND from to FOR DATA of each. */
-    private static String letters(CohereBench x) {
-        StringBuilder b = new StringBuilder();
-        for (int i = 0; i < x.now(0); i++) {
-            for (int what = 0; what < 5; what++) {
-                b.append(x.letter(i, what));
-            }
-            b.append(' ');
-        }
-        return b.toString().trim();
-    }
 
     private static void dueLetters(int promise, CohereBench x, String want) {
         due(promise, "the letters " + letters(x) + " against " + want, letters(x).equals(want) ? 1 : 0, 1);
@@ -83,11 +34,7 @@ public final class PromiseTest {
         sameness();
         goAndNumber();
         usedRows();
-        System.out.println(asked + " answers were asked for");
-        System.out.println(wrong == 0 ? "all answers are as due" : wrong + " answers are not as due");
-        if (wrong != 0) {
-            System.exit(1);
-        }
+        finish();
     }
 
     private static void newObject() {
