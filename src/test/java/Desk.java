@@ -35,11 +35,11 @@ abstract class Desk {
         due(call, got, want);
     }
 
-    /** A test of one sentence, which must stand in the document word by word. */
+    /** A test of one sentence, which must stand word by word in the document, if that is here to be read. */
     static void sentence(int promise, String text, Runnable test) {
         sentences++;
         about = title(promise) + " \"" + text + "\": ";
-        if (!chapter(promise).contains(text)) {
+        if (!document().isEmpty() && !chapter(promise).contains(text)) {
             wrong++;
             System.out.println(about + "does not stand there");
         }
@@ -66,7 +66,7 @@ abstract class Desk {
             try {
                 document = Files.readString(DOCUMENT).replaceAll("\\s+", " ");
             } catch (IOException e) {
-                System.out.println("can't read " + DOCUMENT);
+                System.out.println(DOCUMENT + " can't be read: the quotations are not looked up");
                 document = "";
             }
         }

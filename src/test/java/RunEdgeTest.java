@@ -31,7 +31,6 @@ public final class RunEdgeTest extends Desk {
             + "from one to the other in the same order, else in any order.", RunEdgeTest::sameness);
         sentence(TERMS, "THE FIRST: all states 0, all WANT nothing, caches' DATA STALE, the home's FRESH, "
             + "no HOLDERS, no letters.", () -> {
-            dueFirst(new CohereBench(), 2);
             for (int p = 1; p <= 4; p++) {
                 CohereBench x = withProcessors(p);
                 dueFirst(x, p);
@@ -50,6 +49,7 @@ public final class RunEdgeTest extends Desk {
                 dueFirst(x, p);
             }
         });
+        sentence(TERMS, "THE RUN is in a state of all, THE FIRST at first.", () -> dueFirst(new CohereBench(), 2));
     }
 
     private static void dueFirst(CohereBench x, int p) {

@@ -294,6 +294,19 @@ public final class TableEdgeTest extends Desk {
     }
 
     private static void actsOfCaches() {
+        sentence(TERMS, "6 its DATA become those of the letter at hand.", () -> {
+            // FRESH ones over STALE ones, STALE ones over FRESH ones.
+            CohereBench x = withProcessors(1);
+            put(x, CACHE, 0, EVICT, 0x21);
+            put(x, HOME, 0, 2, 0x32, 0x22);
+            put(x, CACHE, 0, kind(2), 0x60);
+            choose(x, 0, 1);
+            dueLetters(x, "21001 21000");
+            choose(x, 1);
+            due("DATA", x.end(0, 1), 1);
+            choose(x, 1);
+            due("DATA", x.end(0, 1), 0);
+        });
         sentence(TERMS, "7 a load is done, 8 a store is done: it WANTS nothing then;", () -> {
             for (int event = LOAD; event <= STORE; event++) {
                 CohereBench x = new CohereBench();
@@ -434,6 +447,16 @@ public final class TableEdgeTest extends Desk {
                 put(x, HOME, 0, 2, 0x2E, 0x3F, 0x80, 0x3D);
                 choose(x, 2 * p + 1, 8);
                 dueLetters(x, "144pp0 154pp1 134pp0".replace("p", "" + p));
+            }
+        });
+        sentence(TERMS, "8 the home's DATA become those of the letter.", () -> {
+            CohereBench x = withProcessors(1);
+            put(x, CACHE, 0, STORE, 0x80, 0x31, 0x21, 0x31);
+            put(x, HOME, 0, 2, 0x80);
+            choose(x, 0);
+            for (int fresh : new int[] {1, 0, 1}) {
+                choose(x, 1);
+                due("the home's DATA", x.end(1, 1), fresh);
             }
         });
         sentence(TERMS, "4 one goes to each of the HOLDERS but that one, the least first, FOR that one, too.", () -> {
