@@ -18,6 +18,12 @@ public final class FaceTest {
         "found(int,int)", "far(int)", "way(int,int)", "go(int)", "number()", "used(int)");
     private static final String[] RULED_OUT = {"throw", "throws", "try", "catch", "synchronized", "assert",
         "->", "::", "Exact", "HashMap", "Random", "System.out", "System.nanoTime", "Thread", "var", "transient"};
+    private static final Set<Class<?>> CONSTANTS = Set.of(int.class, long.class, boolean.class, char.class,
+        String.class);
+    private static final int MOST_CLASSES = 12;
+    private static final int MOST_FIELDS = 20;
+    private static final int MOST_PARAMETERS = 7;
+    private static final int MOST_LINES = 60;
 
     private static int wrong = 0;
 
@@ -29,6 +35,7 @@ public final class FaceTest {
     public static void main(String[] args) throws IOException {
         face();
         words();
+        lengths();
         System.out.println(wrong == 0 ? "the face is as due" : wrong + " things are not as due");
         if (wrong != 0) {
             System.exit(1);
@@ -39,7 +46,6 @@ public final class FaceTest {
         Set<String> open = new TreeSet<>();
         for (Field f : CohereBench.class.getDeclaredFields()) {
             if (!Modifier.isPrivate(f.getModifiers())) open.add(f.getName());
-            if (Modifier.isStatic(f.getModifiers()) && !Modifier.isFinal(f.getModifiers())) say("not final: " + f);
         }
         for (Constructor<?> c : CohereBench.class.getDeclaredConstructors()) {
             if (!Modifier.isPrivate(c.getModifiers())) open.add("CohereBench" + parameters(c.toString()));
@@ -63,7 +69,26 @@ public final class FaceTest {
         }
         hidden.retainAll(shown);
         if (!hidden.isEmpty()) say("these bear the name of a public one: " + hidden);
-        if (CohereBench.class.getDeclaredClasses().length > 12) say("too many classes");
+        if (CohereBench.class.getDeclaredClasses().length + 1 > MOST_CLASSES) say("too many classes");
+        measures(CohereBench.class);
+        for (Class<?> c : CohereBench.class.getDeclaredClasses()) measures(c);
+    }
+
+    /** A static field is final and a constant; a class has few fields, a method or constructor few parameters. */
+    private static void measures(Class<?> c) {
+        int fields = 0;
+        for (Field f : c.getDeclaredFields()) {
+            boolean constant = Modifier.isFinal(f.getModifiers()) && CONSTANTS.contains(f.getType());
+            if (!Modifier.isStatic(f.getModifiers())) fields++;
+            else if (!constant) say("no constant: " + f);
+        }
+        if (fields > MOST_FIELDS) say("too many fields: " + c);
+        for (Method m : c.getDeclaredMethods()) {
+            if (m.getParameterCount() > MOST_PARAMETERS) say("too many parameters: " + m);
+        }
+        for (Constructor<?> m : c.getDeclaredConstructors()) {
+            if (m.getParameterCount() > MOST_PARAMETERS) say("too many parameters: " + m);
+        }
     }
 
     private static String parameters(String signature) {
@@ -82,5 +107,18 @@ public final class FaceTest {
         while (imports.find()) {
             if (!imports.group(1).equals("java.util.Arrays")) say("ruled out: import " + imports.group(1));
         }
+    }
+
+    /** A method begins at a line that opens it, and ends where a brace stands as far to the left. */
+    private static void lengths() throws IOException {
+        String source = Files.readString(Path.of("src/main/java/CohereBench.java"));
+        Matcher m = Pattern.compile("(?ms)^( {4}| {8})(?! )[^\\n]*\\) \\{\\n.*?^\\1\\}$").matcher(source);
+        int methods = 0;
+        while (m.find()) {
+            methods++;
+            String first = m.group().lines().findFirst().orElse("").trim();
+            if (m.group().lines().count() > MOST_LINES) say("too long: " + first);
+        }
+        if (methods < FACE.size() - 1) say("only " + methods + " methods were found to be measured");
     }
 }
